@@ -53,6 +53,7 @@ public final class TaskKernel {
     private boolean started;
     private int time;
     private Task workedLast;
+    /** Counts how often a task became READY or BLOCKED, so that it can be told who did so first. */
     private int changes;
 
     public TaskKernel(int deadlines) {

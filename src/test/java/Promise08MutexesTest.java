@@ -25,6 +25,11 @@ public final class Promise08MutexesTest {
         Check.plainTask(k, 1, "L0 W3 U0");
         Check.plainTask(k, 5, "W3");
         Check.plainTask(k, 9, "L0 W1");
+        return playInverted(k);
+    }
+
+    /** The urgency of task 0 and the state of task 2 behind the first tick with all three, and who works from there. */
+    private static String playInverted(TaskKernel k) {
         k.start();
         k.release(0);
         k.tick(1);
@@ -50,13 +55,7 @@ public final class Promise08MutexesTest {
         Check.body(k, 0, "L0 W3 U0");
         Check.body(k, 1, "W3");
         Check.body(k, 2, "L0 W1");
-        k.start();
-        k.release(0);
-        k.tick(1);
-        k.release(1);
-        k.release(2);
-        String first = Check.workers(k, 1);
-        return k.seen(0, 2) + " " + k.seen(2, 0) + " " + first + Check.workers(k, 6);
+        return playInverted(k);
     }
 
     private static void inversionWithDeadlines() {
@@ -158,8 +157,8 @@ public final class Promise08MutexesTest {
         k.release(2);
         k.release(3);
         CHECK.due("tick(1)", k.tick(1), 1);
-        CHECK.due("the events: LOCK of an own mutex", Check.events(k), "release 0@0, release 1@1, release 2@1, release 3@1, BLOCKED 3@1, "
-                + "FAILED 0@1, GIVEN 3@1");
+        CHECK.due("the events: LOCK of an own mutex", Check.events(k), "release 0@0, release 1@1, release 2@1, "
+                + "release 3@1, BLOCKED 3@1, FAILED 0@1, GIVEN 3@1");
         k.tick(2);
         CHECK.due("the latest events: UNLOCK of a free mutex", Check.latest(k, 3),
                 "DONE 3@2, FAILED 2@3, FAILED 1@3");

@@ -83,19 +83,21 @@ public final class Promise08TickTest {
         readyAnewWhenGiven();
     }
 
-    /** Task 0 begins its job ahead of task 1 but is READY anew, and so behind it, when it gets the mutex. */
+    /** Task 0 is BLOCKED ahead of the job of task 1, but READY anew, and so behind it, when it gets the mutex. */
     private static void readyAnewWhenGiven() {
         TaskKernel k = new TaskKernel(0);
         k.mutex(1, 0);
         Check.plainTask(k, 4, "L0 W1");
         Check.plainTask(k, 4, "W1");
-        Check.plainTask(k, 1, "L0 W2 U0");
+        Check.plainTask(k, 1, "L0 W3 U0");
         k.start();
         k.release(2);
         k.tick(1);
         k.release(0);
+        CHECK.due("who works", Check.workers(k, 1), "2");
+        CHECK.due("seen(0, 0)", k.seen(0, 0), 2);
         k.release(1);
-        CHECK.due("who works", Check.workers(k, 4), "210.");
+        CHECK.due("who works: 2 is as urgent as 1 and worked last", Check.workers(k, 4), "210.");
     }
 
     private static void nearestDueTimeWithDeadlines() {
@@ -142,6 +144,11 @@ public final class Promise08TickTest {
         CHECK.due("tick(50), offset 50", late.tick(50), 0);
         CHECK.due("tick(200)", late.tick(200), 1);
         CHECK.due("tick(1), a period later", late.tick(1), 1);
+        TaskKernel below = new TaskKernel(0);
+        below.task(1, 2, 5, 9, 9);
+        Check.body(below, 0, "W1");
+        below.start();
+        CHECK.due("who works: no release below an offset above the period", Check.workers(below, 8), ".....0.0");
         TaskKernel full = new TaskKernel(0);
         full.task(1, 2, 0, 9, 9);
         Check.body(full, 0, "W3");

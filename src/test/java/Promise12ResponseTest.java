@@ -104,9 +104,19 @@ public final class Promise12ResponseTest {
         task(above, 2, 200, "W20 W20 W20 W20");
         task(above, 2, 200, "W20 W20 W20 W20");
         dueResponses("of 1001", above, TaskKernel.NONE);
+        stays("of 858, 6 times the period", "W6", 858);
+        stays("of 1001, where it would stay", "W7", TaskKernel.NONE);
         TaskKernel full = new TaskKernel(0);
         task(full, 2, 2, "W2");
         task(full, 1, 0, "W1");
         dueResponses("that never stays", full, 2, TaskKernel.NONE);
+    }
+
+    /** Beside a task that leaves one unit of each 143 free. */
+    private static void stays(String what, String steps, int due) {
+        TaskKernel k = new TaskKernel(0);
+        task(k, 1, 0, steps);
+        task(k, 2, 143, "W20 W20 W20 W20 W20 W20 W20 W2");
+        dueResponses(what, k, due);
     }
 }
