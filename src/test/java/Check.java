@@ -64,6 +64,37 @@ final class Check {
         return t;
     }
 
+    /** A new task without a period for runs with DEADLINES: only its deadline and its steps matter. */
+    static int timedTask(TaskKernel kernel, int deadline, String steps) {
+        int t = kernel.task(1, 0, 0, deadline, 200);
+        body(kernel, t, steps);
+        return t;
+    }
+
+    /** Releases these tasks, all at the time as it is now. */
+    static void releaseAll(TaskKernel kernel, int... tasks) {
+        for (int t : tasks) {
+            kernel.release(t);
+        }
+    }
+
+    /** Releases these tasks with one tick behind each. */
+    static void releaseEach(TaskKernel kernel, int... tasks) {
+        for (int t : tasks) {
+            kernel.release(t);
+            kernel.tick(1);
+        }
+    }
+
+    /** The urgencies of the first n tasks, with blanks between them. */
+    static String urgencies(TaskKernel kernel, int n) {
+        List<String> row = new ArrayList<>();
+        for (int t = 0; t < n; t++) {
+            row.add(String.valueOf(kernel.seen(t, 2)));
+        }
+        return String.join(" ", row);
+    }
+
     /** The latest n events, the oldest of them first, each as "kind task@time". */
     static String latest(TaskKernel kernel, int n) {
         List<String> rows = new ArrayList<>();

@@ -5,6 +5,7 @@ public final class Promise05StepTest {
     public static void main(String[] args) {
         countsAndEdges();
         wrongNumbers();
+        aMutexThatIsMadeLater();
         atMostTen();
         notBehindTheStart();
         inTheirOrder();
@@ -36,6 +37,21 @@ public final class Promise05StepTest {
             CHECK.dueArgument(k, "step(" + n[0] + ", " + n[1] + ", " + n[2] + ")", () -> k.step(n[0], n[1], n[2]));
         }
         CHECK.due("step behind refused ones", k.step(0, 1, 0), 1);
+    }
+
+    private static void aMutexThatIsMadeLater() {
+        TaskKernel k = new TaskKernel(0);
+        k.task(1, 0, 0, 9, 9);
+        CHECK.dueArgument(k, "step(0, 1, 0) without a mutex", () -> k.step(0, 1, 0));
+        CHECK.dueArgument(k, "step(0, 2, 0) without a mutex", () -> k.step(0, 2, 0));
+        k.mutex(0, 0);
+        CHECK.due("step(0, 1, 0) with a mutex", k.step(0, 1, 0), 1);
+        CHECK.due("step(0, 2, 0) with a mutex", k.step(0, 2, 0), 2);
+        for (int m = 1; m < 4; m++) {
+            k.mutex(0, 0);
+        }
+        CHECK.due("step(0, 1, 3) with four mutexes", k.step(0, 1, 3), 3);
+        CHECK.dueArgument(k, "step(0, 1, 4) with four mutexes", () -> k.step(0, 1, 4));
     }
 
     private static void atMostTen() {

@@ -5,6 +5,7 @@ public final class Promise10HeldTest {
     public static void main(String[] args) {
         noSuch();
         ownersAndWaiters();
+        sevenWaiters();
         ceils();
         CHECK.end();
     }
@@ -50,6 +51,24 @@ public final class Promise10HeldTest {
         }
         k.tick(1);
         CHECK.due("held(1, 0) at last", k.held(1, 0), -1);
+    }
+
+    /** Task 3 owns the mutex; all the others, the first and the last one among them, are BLOCKED there. */
+    private static void sevenWaiters() {
+        TaskKernel k = new TaskKernel(0);
+        k.mutex(0, 0);
+        for (int t = 0; t < 8; t++) {
+            Check.plainTask(k, t == 3 ? 1 : 5, "L0 W3");
+        }
+        k.start();
+        Check.releaseEach(k, 3);
+        Check.releaseAll(k, 0, 1, 2, 4, 5, 6, 7);
+        CHECK.due("held(0, 1) ahead of the tick", k.held(0, 1), 0);
+        k.tick(1);
+        CHECK.due("held(0, 1)", k.held(0, 1), 7);
+        k.tick(1);
+        CHECK.due("held(0, 0) behind the end of its job", k.held(0, 0), 0);
+        CHECK.due("held(0, 1) behind the end of its job", k.held(0, 1), 6);
     }
 
     private static void ceils() {
