@@ -133,17 +133,18 @@ public final class TermsUrgencyTest {
         CHECK.due("tick(50)", k.tick(50), 0);
     }
 
-    /** Task 1 has to let task 2 work, and is still READY for longer than task 0. */
+    /** While task 0 is READY, task 1 locks a free mutex and lets task 2 work; it is READY for longer all the same. */
     private static void whoIsPutOffStaysReady() {
         TaskKernel k = new TaskKernel(0);
         k.mutex(0, 0);
         Check.plainTask(k, 5, "W1");
-        Check.plainTask(k, 5, "W1 L0 W2");
+        Check.plainTask(k, 5, "W2 L0 W2");
         Check.plainTask(k, 9, "W1");
         k.start();
-        Check.releaseEach(k, 1);
-        Check.releaseAll(k, 0, 2);
-        CHECK.due("who works: a LOCK of a free mutex does not count anew", Check.workers(k, 5), "2110.");
+        Check.releaseEach(k, 1, 0);
+        CHECK.due("held(0, 0)", k.held(0, 0), 1);
+        k.release(2);
+        CHECK.due("who works", Check.workers(k, 5), "2110.");
     }
 
     private static void dueAlikeReadyForLongest() {
