@@ -6,6 +6,7 @@ public final class Promise09SeenTest {
         noSuch();
         eachW();
         longest();
+        urgencyOfAnIdleTask();
         urgencyThroughAChain();
         urgencyThroughAChainWithDeadlines();
         CHECK.end();
@@ -85,6 +86,21 @@ public final class Promise09SeenTest {
         k.release(1);
         k.tick(4);
         CHECK.due("seen(2, 8): over in 3. of a tick", k.seen(2, 8), 3);
+    }
+
+    private static void urgencyOfAnIdleTask() {
+        for (int deadlines = 0; deadlines < 2; deadlines++) {
+            TaskKernel k = new TaskKernel(deadlines);
+            k.task(5, 0, 0, 9, 9);
+            Check.body(k, 0, "W1");
+            k.start();
+            String what = "seen(0, 2), deadlines = " + deadlines;
+            CHECK.due(what + ", ahead of its job", k.seen(0, 2), 0);
+            k.release(0);
+            CHECK.due(what + ", with a job", k.seen(0, 2), deadlines == 0 ? 5 : 9);
+            k.tick(1);
+            CHECK.due(what + ", behind its job", k.seen(0, 2), 0);
+        }
     }
 
     /** Task 2 waits for task 1 at a LENDING mutex, and 1 for 0 at another one; task 3 waits for 0 at a PLAIN one. */

@@ -11,6 +11,7 @@ public final class TermsGoingOnTest {
         givenByTheUrgencyAsItIsThen();
         failedGivesAllInTheirOrder();
         failedInARing();
+        failedInARingLendsNoMore();
         overWithoutTimeLetsOthersGoOn();
         CHECK.end();
     }
@@ -144,6 +145,30 @@ public final class TermsGoingOnTest {
                 "BLOCKED 1@1, BLOCKED 0@2, MISS 1@6, FAILED 1@6, GIVEN 0@6, DONE 0@6");
         CHECK.due("held(0, 0)", k.held(0, 0), -1);
         CHECK.due("held(1, 0)", k.held(1, 0), -1);
+    }
+
+    /**
+     * Task 0 is BLOCKED at mutex 0 of task 1, which is BLOCKED with task 2 at mutex 1 of task 0. When task 0 FAILS it
+     * has no job that could wait and lend, so that task 2 is the most urgent one where mutex 1 is GIVEN. (The document
+     * could be read as if task 0 were IDLE only behind that; then task 1 would get it.)
+     */
+    private static void failedInARingLendsNoMore() {
+        TaskKernel k = new TaskKernel(0);
+        k.mutex(1, 0);
+        k.mutex(1, 0);
+        k.task(9, 0, 0, 4, 200);
+        Check.body(k, 0, "L1 W1 L0 W1");
+        Check.plainTask(k, 2, "L0 W2 L1 W1");
+        Check.plainTask(k, 5, "L1 W1");
+        k.strict(0, true);
+        k.start();
+        Check.releaseEach(k, 1, 0);
+        k.tick(1);
+        Check.releaseEach(k, 2);
+        CHECK.due("the urgencies in the ring", Check.urgencies(k, 3), "9 9 5");
+        k.tick(2);
+        CHECK.due("the latest events", Check.latest(k, 9), "BLOCKED 0@1, BLOCKED 1@2, release 2@3, BLOCKED 2@3, "
+                + "MISS 0@5, FAILED 0@5, GIVEN 2@5, DONE 2@5, GIVEN 1@5");
     }
 
     /** Task 0 is over in part 3 of a tick, and task 1, to which it gives mutex 0, is so in the same one. */

@@ -10,6 +10,7 @@ public final class TermsUrgencyTest {
         theLongestChain();
         ringWithDeadlines();
         whoIsPutOffStaysReady();
+        workedLastThoughBlockedSince();
         dueAlikeReadyForLongest();
         givenAtTheSameTime();
         readyAtTheSameTimeInThreeWays();
@@ -145,6 +146,23 @@ public final class TermsUrgencyTest {
         CHECK.due("held(0, 0)", k.held(0, 0), 1);
         k.release(2);
         CHECK.due("who works", Check.workers(k, 5), "2110.");
+    }
+
+    /** Task 1 works and is BLOCKED in the tick at 1; it is GIVEN the mutex in part 1 of the next one, behind task 2. */
+    private static void workedLastThoughBlockedSince() {
+        TaskKernel k = new TaskKernel(0);
+        k.mutex(0, 0);
+        k.task(1, 0, 0, 2, 200);
+        Check.body(k, 0, "L0 W9");
+        Check.plainTask(k, 5, "W1 L0 W1");
+        Check.plainTask(k, 5, "W1");
+        k.strict(0, true);
+        k.start();
+        Check.releaseEach(k, 0);
+        Check.releaseAll(k, 1, 2);
+        CHECK.due("who works: 2 is READY for longer, but 1 worked last", Check.workers(k, 4), "112.");
+        CHECK.due("the latest events", Check.latest(k, 6),
+                "BLOCKED 1@1, MISS 0@2, FAILED 0@2, GIVEN 1@2, DONE 1@2, DONE 2@3");
     }
 
     private static void dueAlikeReadyForLongest() {
